@@ -33,7 +33,7 @@ public final class PromiseTests {
     promise = 9; retargets();
     promise = 10; layWithoutPools(); poolTieGoesLow(); poolFirstFull(); wantedOnceARound();
     nearestPoolWins(); thunkMustReach(); stepsMustFit(); routeTieGoesLow(); nearestThunkWins();
-    layStartsAfresh(); emptySectionPools(); laysOnlyOnCall();
+    layStartsAfresh(); emptySectionPools(); nothingBehindLastThunk(); laysOnlyOnCall();
     promise = 11; counts(); countTold(); countTelling();
     promise = 12; addresses(); addressesStay(); highAddresses();
     promise = 13; routes();
@@ -349,6 +349,7 @@ public final class PromiseTests {
     due("first pool", x.thunk(0, 0), 0);
     due("second pool", x.thunk(1, 0), 1);
     due("second round", x.thunk(1, 2), 2);
+    due("first place of the second pool", x.thunk(1, 5), 0);
     due("thunk by which none goes", x.count(5), 1);
     due("by thunk", x.route(0, 1), 1);
     due("section 2", x.address(0, 2), 28);
@@ -490,6 +491,32 @@ public final class PromiseTests {
     due("end of pool 1", x.address(4, 1), 9);
     due("section 2", x.address(0, 2), 9);
     due("end of pool 2", x.address(4, 2), 9);
+  }
+
+  // A pool's next thunk would be at 24, but section 1 follows the last one right away.
+  private static void nothingBehindLastThunk() {
+    VeneerYard x = new VeneerYard();
+    x.kind(0, 1, 6);
+    x.kind(7, 1, 9);
+    x.thunks(3, 3, 7);
+    x.section(10, 0, true);
+    x.section(100, 0, true);
+    x.label(1, 100);
+    x.branch(0, 0, 0, 0);
+    due("lay", x.lay(), 0);
+    due("thunk", x.address(3, 0), 16);
+    due("end of pool 0", x.address(4, 0), 24);
+    due("section 1", x.address(0, 1), 19);
+    due("end of pool 1", x.address(4, 1), 120);
+    due("end of all", x.count(7), 119);
+    due("bytes between", x.count(6), 6);
+    x.resize(1, 101);
+    x.label(1, 101);
+    x.label(0, 0);
+    x.branch(1, 100, 0, 2);
+    due("lay with a thunk at the end", x.lay(), 0);
+    due("end of all", x.count(7), 123);
+    due("end of pool 1", x.address(4, 1), 128);
   }
 
   private static void laysOnlyOnCall() {
@@ -853,6 +880,12 @@ public final class PromiseTests {
     due("with a longer reach", x.far(), 0);
     due("nothing laid out by it", x.route(1, 0), NONE);
     due("still told since", x.count(14), 1);
+    VeneerYard near = tieYard(5);
+    near.branch(1, 9, 0, near.label(0, 0));
+    near.branch(1, 6, 0, near.label(0, 0));
+    near.lay();
+    due("a thunk has moved branch 2 out of its reach", near.route(2, 0), 1);
+    due("without thunks it would be near", near.far(), 2);
     VeneerYard edge = new VeneerYard();
     edge.kind(0, 8, 4);
     edge.section(1, 0, true);
