@@ -1,5 +1,6 @@
 import java.util.ArrayList;
 import java.util.List;
+import java.util.function.ToLongFunction;
 
 // Made-up runs of calls, each answer held against a model that follows the
 // document word by word, without regard to speed.
@@ -412,8 +413,12 @@ public final class ModelTests {
   private final int maxAlign;
   private final int minBits;
   private final int poolsOfTen;
+  private final Model m = new Model();
   private VeneerYard x = new VeneerYard();
-  private Model m = new Model();
+  private int used = 0;
+  // An object answers 512 calls: when they are used up, the calls that told
+  // something, or laid out, bring another one to where it was.
+  private final List<ToLongFunction<VeneerYard>> done = new ArrayList<>();
 
   private ModelTests(int run) {
     this.run = run;
@@ -436,11 +441,30 @@ public final class ModelTests {
     return b ? 1 : 0;
   }
 
+  // The object for one call more.
+  private VeneerYard yard() {
+    if (used == 512) renew();
+    used++;
+    return x;
+  }
+
+  private long tell(ToLongFunction<VeneerYard> call) {
+    long answer = call.applyAsLong(yard());
+    done.add(call);
+    return answer;
+  }
+
+  private void renew() {
+    x = new VeneerYard();
+    for (ToLongFunction<VeneerYard> call : done) call.applyAsLong(x);
+    used = done.size();
+  }
+
   private void section() {
     int size = dice.below(12) == 0 ? dice.wild() : dice.below(5) == 0 ? 0 : dice.below(maxSize + 1);
     int align = dice.below(20) == 0 ? dice.wild() : dice.below(maxAlign + 1);
     boolean pool = dice.below(10) < poolsOfTen;
-    same("section", x.section(size, align, pool), m.section(size, align, pool));
+    same("section", tell(y -> y.section(size, align, pool)), m.section(size, align, pool));
   }
 
   private int someSection() {
@@ -461,14 +485,14 @@ public final class ModelTests {
   private void label() {
     int s = someSection();
     int offset = offsetIn(s);
-    same("label", x.label(s, offset), m.label(s, offset));
+    same("label", tell(y -> y.label(s, offset)), m.label(s, offset));
   }
 
   private void kind() {
     int k = dice.below(12) == 0 ? dice.wild() : dice.below(8);
     int step = dice.below(12) == 0 ? dice.wild() : dice.below(2) == 0 ? 1 : 1 << dice.below(4);
     int bits = dice.below(12) == 0 ? dice.wild() : k >= 5 ? dice.from(6, 14) : dice.from(minBits, minBits + 2);
-    same("kind", number(x.kind(k, step, bits)), number(m.kind(k, step, bits)));
+    same("kind", tell(y -> number(y.kind(k, step, bits))), number(m.kind(k, step, bits)));
   }
 
   private void branch() {
@@ -476,29 +500,29 @@ public final class ModelTests {
     int offset = offsetIn(s);
     int kind = dice.below(25) == 0 ? dice.wild() : dice.below(5);
     int label = someLabel();
-    same("branch", x.branch(s, offset, kind, label), m.branch(s, offset, kind, label));
+    same("branch", tell(y -> y.branch(s, offset, kind, label)), m.branch(s, offset, kind, label));
   }
 
   private void thunks() {
     int size = dice.below(15) == 0 ? dice.wild() : dice.below(8) == 0 ? dice.from(1, 64) : dice.from(1, 12);
     int align = dice.below(15) == 0 ? dice.wild() : dice.below(6) == 0 ? dice.below(7) : dice.below(4);
     int kind = dice.below(15) == 0 ? dice.wild() : dice.from(5, 7);
-    same("thunks", number(x.thunks(size, align, kind)), number(m.thunks(size, align, kind)));
+    same("thunks", tell(y -> number(y.thunks(size, align, kind))), number(m.thunks(size, align, kind)));
   }
 
   private void change() {
     int which = dice.below(10);
     if (which == 0) {
       int address = dice.below(4) == 0 ? dice.wild() : dice.below(5000);
-      same("base", number(x.base(address)), number(m.base(address)));
+      same("base", tell(y -> number(y.base(address))), number(m.base(address)));
     } else if (which < 4) {
       int s = someSection();
       int size = dice.below(12) == 0 ? dice.wild() : dice.below(maxSize * 2);
-      same("resize", number(x.resize(s, size)), number(m.resize(s, size)));
+      same("resize", tell(y -> number(y.resize(s, size))), number(m.resize(s, size)));
     } else if (which < 7) {
       int b = dice.below(12) == 0 ? dice.wild() : dice.below(Math.max(1, m.told.branches.size()));
       int label = someLabel();
-      same("retarget", number(x.retarget(b, label)), number(m.retarget(b, label)));
+      same("retarget", tell(y -> number(y.retarget(b, label))), number(m.retarget(b, label)));
     } else if (which == 7) {
       thunks();
     } else if (which == 8) {
@@ -509,7 +533,7 @@ public final class ModelTests {
   }
 
   private void lay() {
-    same("lay", x.lay(), m.lay());
+    same("lay", tell(y -> y.lay()), m.lay());
     mostRounds = Math.max(mostRounds, m.rounds);
     mostThunks = Math.max(mostThunks, m.at.thunks.size());
     idleThunks += m.count(5);
@@ -517,40 +541,40 @@ public final class ModelTests {
   }
 
   private void askAll() {
-    for (int what = -1; what <= 16; what++) same("count(" + what + ")", x.count(what), m.count(what));
-    same("far", x.far(), m.far());
+    for (int what = -1; what <= 16; what++) same("count(" + what + ")", yard().count(what), m.count(what));
+    same("far", yard().far(), m.far());
     for (int k = -1; k <= 40; k++) {
-      for (int what = 0; what <= 4; what += 4) same("address", x.address(what, k), m.address(what, k));
+      for (int what = 0; what <= 4; what += 4) same("address", yard().address(what, k), m.address(what, k));
     }
-    for (int k = -1; k <= 60; k++) same("address(1, " + k + ")", x.address(1, k), m.address(1, k));
+    for (int k = -1; k <= 60; k++) same("address(1, " + k + ")", yard().address(1, k), m.address(1, k));
     for (int b = -1; b <= 200; b++) {
-      same("address(2, " + b + ")", x.address(2, b), m.address(2, b));
-      for (int what = -1; what <= 2; what++) same("route(" + b + ", " + what + ")", x.route(b, what), m.route(b, what));
-      same("encoded(0, " + b + ")", x.encoded(0, b), m.encoded(0, b));
-      same("walk(" + b + ")", x.walk(b), m.walk(b));
+      same("address(2, " + b + ")", yard().address(2, b), m.address(2, b));
+      for (int what = -1; what <= 2; what++) same("route(" + b + ", " + what + ")", yard().route(b, what), m.route(b, what));
+      same("encoded(0, " + b + ")", yard().encoded(0, b), m.encoded(0, b));
+      same("walk(" + b + ")", yard().walk(b), m.walk(b));
     }
     for (int t = -1; t <= m.at.thunks.size(); t++) {
-      same("address(3, " + t + ")", x.address(3, t), m.address(3, t));
-      same("encoded(1, " + t + ")", x.encoded(1, t), m.encoded(1, t));
-      for (int what = -1; what <= 6; what++) same("thunk(" + t + ", " + what + ")", x.thunk(t, what), m.thunk(t, what));
+      same("address(3, " + t + ")", yard().address(3, t), m.address(3, t));
+      same("encoded(1, " + t + ")", yard().encoded(1, t), m.encoded(1, t));
+      for (int what = -1; what <= 6; what++) same("thunk(" + t + ", " + what + ")", yard().thunk(t, what), m.thunk(t, what));
     }
     int bytes = (int) (m.at.last - m.laid.base);
     for (int i = 0; i < 120; i++) {
       long address = m.laid.base - 3 + dice.below(bytes + 7);
-      same("at(" + address + ")", x.at(address), m.at(address));
+      same("at(" + address + ")", yard().at(address), m.at(address));
     }
   }
 
   private void askWild() {
     int k = dice.wild();
     int what = dice.wild();
-    same("count", x.count(what), m.count(what));
-    same("address", x.address(what, k), m.address(what, k));
-    same("route", x.route(k, what), m.route(k, what));
-    same("thunk", x.thunk(k, what), m.thunk(k, what));
-    same("encoded", x.encoded(what, k), m.encoded(what, k));
-    same("walk", x.walk(k), m.walk(k));
-    same("at", x.at((long) k * 4294967296L + what), m.at((long) k * 4294967296L + what));
+    same("count", yard().count(what), m.count(what));
+    same("address", yard().address(what, k), m.address(what, k));
+    same("route", yard().route(k, what), m.route(k, what));
+    same("thunk", yard().thunk(k, what), m.thunk(k, what));
+    same("encoded", yard().encoded(what, k), m.encoded(what, k));
+    same("walk", yard().walk(k), m.walk(k));
+    same("at", yard().at((long) k * 4294967296L + what), m.at((long) k * 4294967296L + what));
   }
 
   private void play() {
