@@ -1,4 +1,11 @@
-// For each promise of the document: ordinary inputs, the named edges, wrong inputs.
+import java.lang.reflect.InvocationTargetException;
+import java.lang.reflect.Method;
+import java.util.ArrayList;
+import java.util.Comparator;
+import java.util.List;
+
+// For each promise of the document, tests that bear its number: ordinary inputs,
+// the named edges, wrong inputs.
 public final class PromiseTests {
   private static final int NONE = VeneerYard.NONE;
   private static final long NOWHERE = VeneerYard.NOWHERE;
@@ -7,13 +14,13 @@ public final class PromiseTests {
 
   private static int wrong = 0;
   private static int seen = 0;
-  private static int promise = 0;
+  private static String test = "";
 
   private static void due(String call, long got, long want) {
     seen++;
     if (got != want) {
       wrong++;
-      System.out.println("promise " + promise + ": " + call + " answered " + got + ", due is " + want);
+      System.out.println(test + ": " + call + " answered " + got + ", due is " + want);
     }
   }
 
@@ -21,29 +28,31 @@ public final class PromiseTests {
     due(call, got ? 1L : 0L, want ? 1L : 0L);
   }
 
-  public static void main(String[] args) {
-    promise = 1; newObject();
-    promise = 2; sections();
-    promise = 3; labels();
-    promise = 4; kinds();
-    promise = 5; branches();
-    promise = 6; toldThunks();
-    promise = 7; bases();
-    promise = 8; resizes();
-    promise = 9; retargets();
-    promise = 10; layWithoutPools(); poolTieGoesLow(); poolFirstFull(); wantedOnceARound();
-    nearestPoolWins(); thunkMustReach(); stepsMustFit(); routeTieGoesLow(); nearestThunkWins();
-    layStartsAfresh(); emptySectionPools(); nothingBehindLastThunk(); laysOnlyOnCall();
-    promise = 11; counts(); countTold(); countTelling();
-    promise = 12; addresses(); addressesStay(); highAddresses();
-    promise = 13; routes();
-    promise = 14; thunkRows();
-    promise = 15; codes(); codesOfEachKind(); strandedThunk();
-    promise = 16; whatIsAt();
-    promise = 17; walks(); walkEndsAtLabel();
-    promise = 18; fars();
-    System.out.println(seen + " answers, " + wrong + " not as due");
+  public static void main(String[] args) throws IllegalAccessException {
+    List<Method> tests = new ArrayList<>();
+    for (Method m : PromiseTests.class.getDeclaredMethods()) {
+      if (m.getName().matches("promise\\d\\d[A-Z]\\w*")) tests.add(m);
+    }
+    tests.sort(Comparator.comparing(Method::getName));
+    for (Method m : tests) run(m);
+    for (int promise = 1; promise <= 18; promise++) {
+      String name = String.format("promise%02d", promise);
+      test = name;
+      due("a test", tests.stream().anyMatch(m -> m.getName().startsWith(name)), true);
+    }
+    System.out.println(tests.size() + " tests, " + seen + " answers, " + wrong + " not as due");
     if (wrong != 0) System.exit(1);
+  }
+
+  // A call that throws is a wrong answer like any other: the next tests still run.
+  private static void run(Method m) throws IllegalAccessException {
+    test = m.getName();
+    try {
+      m.invoke(null);
+    } catch (InvocationTargetException e) {
+      wrong++;
+      System.out.println(test + ": threw " + e.getCause());
+    }
   }
 
   // Sections 0 (10 bytes) and 1 (10 bytes) with pools, 2 (100 bytes) without;
@@ -86,7 +95,7 @@ public final class PromiseTests {
     return x;
   }
 
-  private static void newObject() {
+  private static void promise01NewObject() {
     VeneerYard x = new VeneerYard();
     for (int what = 0; what <= 7; what++) due("count(" + what + ")", x.count(what), 0);
     for (int what = 10; what <= 14; what++) due("count(" + what + ")", x.count(what), 0);
@@ -108,7 +117,7 @@ public final class PromiseTests {
     due("sections of another object", x.count(10), 0);
   }
 
-  private static void sections() {
+  private static void promise02Sections() {
     VeneerYard x = new VeneerYard();
     due("size below 0", x.section(-1, 0, false), NONE);
     due("size above all", x.section(1000001, 0, false), NONE);
@@ -131,7 +140,7 @@ public final class PromiseTests {
     due("address of section 12", x.address(0, 12), 1007616);
   }
 
-  private static void labels() {
+  private static void promise03Labels() {
     VeneerYard x = new VeneerYard();
     due("no section", x.label(0, 0), NONE);
     x.section(10, 0, false);
@@ -150,7 +159,7 @@ public final class PromiseTests {
     due("count(11)", x.count(11), 60);
   }
 
-  private static void kinds() {
+  private static void promise04Kinds() {
     VeneerYard x = new VeneerYard();
     due("kind -1", x.kind(-1, 1, 4), false);
     due("kind 8", x.kind(8, 1, 4), false);
@@ -177,7 +186,7 @@ public final class PromiseTests {
     due("far no more", x.far(), 0);
   }
 
-  private static void branches() {
+  private static void promise05Branches() {
     VeneerYard x = new VeneerYard();
     x.section(10, 0, false);
     x.section(0, 0, false);
@@ -202,7 +211,7 @@ public final class PromiseTests {
     due("count(12)", x.count(12), 200);
   }
 
-  private static void toldThunks() {
+  private static void promise06ToldThunks() {
     VeneerYard x = new VeneerYard();
     due("kind not told", x.thunks(4, 0, 0), false);
     x.kind(0, 1, 8);
@@ -230,7 +239,7 @@ public final class PromiseTests {
     due("pool's end as it was", x.address(4, 0), 2);
   }
 
-  private static void bases() {
+  private static void promise07Bases() {
     VeneerYard x = new VeneerYard();
     x.section(7, 4, true);
     due("below 0", x.base(-1), false);
@@ -249,7 +258,7 @@ public final class PromiseTests {
     due("bytes between", x.count(6), 1);
   }
 
-  private static void resizes() {
+  private static void promise08Resizes() {
     VeneerYard x = new VeneerYard();
     x.section(20, 0, false);
     x.section(20, 0, false);
@@ -286,7 +295,7 @@ public final class PromiseTests {
     due("what is there now", x.at(12), 1000);
   }
 
-  private static void retargets() {
+  private static void promise09Retargets() {
     VeneerYard x = new VeneerYard();
     x.section(100, 0, false);
     x.kind(0, 1, 4);
@@ -308,7 +317,7 @@ public final class PromiseTests {
     due("route", x.route(0, 0), 2);
   }
 
-  private static void layWithoutPools() {
+  private static void promise10LayWithoutPools() {
     VeneerYard x = new VeneerYard();
     x.kind(0, 1, 4);
     x.section(8, 0, false);
@@ -331,7 +340,7 @@ public final class PromiseTests {
     due("9 back", x.route(4, 0), 2);
   }
 
-  private static void poolTieGoesLow() {
+  private static void promise10PoolTieGoesLow() {
     VeneerYard x = tieYard(5);
     due("lay", x.lay(), 0);
     due("rounds", x.count(0), 2);
@@ -341,7 +350,7 @@ public final class PromiseTests {
   }
 
   // The thunk in pool 0 pushes the branch out of its own reach of it.
-  private static void poolFirstFull() {
+  private static void promise10PoolFirstFull() {
     VeneerYard x = tieYard(4);
     due("lay", x.lay(), 0);
     due("rounds", x.count(0), 3);
@@ -356,7 +365,7 @@ public final class PromiseTests {
     due("walk", x.walk(0), 128);
   }
 
-  private static void wantedOnceARound() {
+  private static void promise10WantedOnceARound() {
     VeneerYard x = tieYard(5);
     x.branch(1, 6, 0, 0);
     x.branch(0, 9, 0, 0);
@@ -374,7 +383,7 @@ public final class PromiseTests {
     due("its address", x.address(3, 1), 14);
   }
 
-  private static void nearestPoolWins() {
+  private static void promise10NearestPoolWins() {
     VeneerYard x = tieYard(5);
     x.branch(1, 6, 0, 0);
     x.retarget(0, x.label(1, 5));
@@ -384,7 +393,7 @@ public final class PromiseTests {
     due("wanter", x.thunk(0, 3), 1);
   }
 
-  private static void thunkMustReach() {
+  private static void promise10ThunkMustReach() {
     VeneerYard x = tieYard(5);
     x.kind(7, 1, 7);
     due("lay with a label beyond the reach of both pools", x.lay(), 1);
@@ -400,7 +409,7 @@ public final class PromiseTests {
     due("pool", x.thunk(0, 0), 1);
   }
 
-  private static void stepsMustFit() {
+  private static void promise10StepsMustFit() {
     VeneerYard x = new VeneerYard();
     x.kind(0, 4, 6);
     x.kind(1, 2, 12);
@@ -420,7 +429,7 @@ public final class PromiseTests {
   }
 
   // Thunk 0 is at 26, thunk 1 at 10, branch 2 at 18.
-  private static void routeTieGoesLow() {
+  private static void promise10RouteTieGoesLow() {
     VeneerYard x = new VeneerYard();
     x.kind(0, 1, 5);
     x.kind(7, 1, 9);
@@ -441,7 +450,7 @@ public final class PromiseTests {
     due("users", x.thunk(1, 4), 2);
   }
 
-  private static void nearestThunkWins() {
+  private static void promise10NearestThunkWins() {
     VeneerYard x = new VeneerYard();
     x.kind(0, 1, 5);
     x.kind(7, 1, 9);
@@ -459,7 +468,7 @@ public final class PromiseTests {
     due("nearer to the upper", x.route(3, 1), 0);
   }
 
-  private static void layStartsAfresh() {
+  private static void promise10LayStartsAfresh() {
     VeneerYard x = tieYard(4);
     x.lay();
     due("lay again", x.lay(), 0);
@@ -475,7 +484,7 @@ public final class PromiseTests {
   }
 
   // Pools of empty sections end at one address: the first of them is taken.
-  private static void emptySectionPools() {
+  private static void promise10EmptySectionPools() {
     VeneerYard x = new VeneerYard();
     x.kind(0, 1, 4);
     x.kind(7, 1, 9);
@@ -494,7 +503,7 @@ public final class PromiseTests {
   }
 
   // A pool's next thunk would be at 24, but section 1 follows the last one right away.
-  private static void nothingBehindLastThunk() {
+  private static void promise10NothingBehindLastThunk() {
     VeneerYard x = new VeneerYard();
     x.kind(0, 1, 6);
     x.kind(7, 1, 9);
@@ -519,7 +528,7 @@ public final class PromiseTests {
     due("end of pool 1", x.address(4, 1), 128);
   }
 
-  private static void laysOnlyOnCall() {
+  private static void promise10LaysOnlyOnCall() {
     VeneerYard x = tieYard(5);
     x.far();
     due("rounds", x.count(0), 0);
@@ -532,7 +541,7 @@ public final class PromiseTests {
     due("at the base of nothing", empty.at(0), NONE);
   }
 
-  private static void counts() {
+  private static void promise11Counts() {
     VeneerYard x = paddedYard();
     due("lay", x.lay(), 1);
     int[] want = {4, 3, 2, 2, 1, 1, 18, 63, NONE, NONE, 2, 3, 5, 1, 0, NONE};
@@ -542,7 +551,7 @@ public final class PromiseTests {
     due("count of the greatest", x.count(HIGH), NONE);
   }
 
-  private static void countTold() {
+  private static void promise11CountTold() {
     VeneerYard x = paddedYard();
     x.lay();
     x.section(1, 0, true);
@@ -558,7 +567,7 @@ public final class PromiseTests {
     due("direct ones as laid out", x.count(2), 2);
   }
 
-  private static void countTelling() {
+  private static void promise11CountTelling() {
     VeneerYard x = new VeneerYard();
     due("at first", x.count(14), 0);
     due("after section", telling(x, x.section(20, 0, true) == 0), 1);
@@ -591,7 +600,7 @@ public final class PromiseTests {
     return told;
   }
 
-  private static void addresses() {
+  private static void promise12Addresses() {
     VeneerYard x = paddedYard();
     x.lay();
     due("section 0", x.address(0, 0), 8);
@@ -624,7 +633,7 @@ public final class PromiseTests {
     }
   }
 
-  private static void addressesStay() {
+  private static void promise12AddressesStay() {
     VeneerYard x = paddedYard();
     x.lay();
     x.base(1000);
@@ -652,7 +661,7 @@ public final class PromiseTests {
     due("section 2 anew", x.address(0, 2), 1524);
   }
 
-  private static void highAddresses() {
+  private static void promise12HighAddresses() {
     VeneerYard x = new VeneerYard();
     x.base(HIGH);
     for (int s = 0; s < 40; s++) x.section(1000000, 12, true);
@@ -677,7 +686,7 @@ public final class PromiseTests {
     due("end", x.at(x.address(1, 0)), NONE);
   }
 
-  private static void routes() {
+  private static void promise13Routes() {
     VeneerYard x = paddedYard();
     x.lay();
     int[] way = {1, 1, 0, 0, 2};
@@ -694,7 +703,7 @@ public final class PromiseTests {
     due("least", x.route(LOW, 1), NONE);
   }
 
-  private static void thunkRows() {
+  private static void promise14ThunkRows() {
     VeneerYard x = paddedYard();
     x.lay();
     int[][] want = {{0, 1, 1, 0, 1, 0, NONE}, {0, 2, 2, 4, 0, 1, NONE},
@@ -727,7 +736,7 @@ public final class PromiseTests {
     }
   }
 
-  private static void codes() {
+  private static void promise15Codes() {
     VeneerYard x = paddedYard();
     x.lay();
     int[] want = {2, 7, 11, 15, NONE};
@@ -751,7 +760,7 @@ public final class PromiseTests {
     due("walk as laid out", x.walk(0), 68);
   }
 
-  private static void codesOfEachKind() {
+  private static void promise15CodesOfEachKind() {
     int[] steps = {1, 2, 4, 8};
     for (int step : steps) {
       for (int bits = 4; bits <= 16; bits++) {
@@ -781,7 +790,7 @@ public final class PromiseTests {
   }
 
   // Thunk 0 at 4 reaches its label at 19, till thunk 1 in pool 1 moves that to 23.
-  private static void strandedThunk() {
+  private static void promise15StrandedThunk() {
     VeneerYard x = new VeneerYard();
     x.kind(0, 1, 4);
     x.kind(7, 1, 5);
@@ -809,7 +818,7 @@ public final class PromiseTests {
     due("thunk by which none goes", x.count(5), 1);
   }
 
-  private static void whatIsAt() {
+  private static void promise16WhatIsAt() {
     VeneerYard x = paddedYard();
     due("ahead of any lay", x.at(8), NONE);
     x.lay();
@@ -840,7 +849,7 @@ public final class PromiseTests {
     due("behind it", empty.at(16), 1002);
   }
 
-  private static void walks() {
+  private static void promise17Walks() {
     VeneerYard x = paddedYard();
     due("ahead of any lay", x.walk(0), NOWHERE);
     x.lay();
@@ -853,7 +862,7 @@ public final class PromiseTests {
 
   // A label at its section's end may have a thunk's address; the walk of a
   // direct branch ends there all the same.
-  private static void walkEndsAtLabel() {
+  private static void promise17WalkEndsAtLabel() {
     VeneerYard x = tieYard(5);
     x.label(0, 10);
     x.branch(0, 2, 0, 1);
@@ -865,7 +874,7 @@ public final class PromiseTests {
     due("walk by the thunk", x.walk(0), 124);
   }
 
-  private static void fars() {
+  private static void promise18Fars() {
     VeneerYard x = tieYard(5);
     due("far", x.far(), 1);
     due("lay", x.lay(), 0);
